@@ -877,6 +877,10 @@ final class Model {
         return names.get(i).sort;
     }
 
+    int letter(int letter) {
+        return wide[letter];
+    }
+
     String rulesText() {
         return rules;
     }

@@ -28,6 +28,7 @@ public final class PromisesTest {
         judge();
         line();
         linesBreak();
+        linesChange();
         fillings();
         may();
         odds();
@@ -128,6 +129,11 @@ public final class PromisesTest {
         y.width(1, 1);
         y.joined(1, 1, -20);
         due.is("twelve a", y.wide(0), 12 - 220);
+        InkBars z = five();
+        z.bar(30, -1, 255);
+        due.is("before", z.may(0), 7);
+        z.joined(14, 14, 1);
+        due.is("ann is too wide now", z.may(0), 6);
     }
 
     private static void feed() {
@@ -543,6 +549,7 @@ public final class PromisesTest {
         due.is("ana, ivan; not lines or ties alone", x.against(3, 3), 0);
         Due.sheet(x, 50, "an/2/a/3");
         due.is("over a break: an, bob", x.against(2, 1), 4);
+        due.is("an still stands ahead of the other one", x.against(1, 4), 4);
         due.is("over a break: a, eve", x.against(3, 2), 36);
         due.is("over a break: a, ivan", x.against(3, 3), 4);
         x.tie(0, 0, 1);
@@ -657,6 +664,40 @@ public final class PromisesTest {
         due.is("twice: 40 40 is 90", z.may(0), 7);
         Due.sheet(z, 50, "abcdefghijkl/0");
         due.is("a first one that is too wide stands", z.may(0), 7);
+    }
+
+    /** Breaks are asked anew when widths change. */
+    private static void linesChange() {
+        InkBars x = five();
+        x.bar(45, -1, 255);
+        Due.sheet(x, 60, "ab 0");
+        due.is("ab ann: 60", x.may(0), 7);
+        x.width(0, 9);
+        due.is("blank 9", x.may(0), 7);
+        x.width(0, 1);
+        due.is("blank 1: ab ivan is 61", x.may(0), 7);
+        x.width(2, 8);
+        due.is("b 8: ab ivan is 59", x.may(0), 31);
+        x.lifted(0, 0, 55);
+        x.lifted(0, 0, 30);
+        due.is("a habit to 25", x.may(0), 31);
+        x.width(0, 20);
+        due.is("blank 20: ab bob is 64", x.may(0), 0);
+        x.width(2, 5);
+        due.is("b 5: ab bob is 55, 25 less than the ink", x.may(0), 2);
+        x.width(0, 10);
+        due.is("blank 10 again", x.may(0), 7);
+        x.width(2, 10);
+        due.is("as at first", x.may(0), 7);
+        Due.sheet(x, 50, "abc ab");
+        due.is("60 breaks", x.may(0), 0);
+        x.width(0, 1);
+        x.width(1, 5);
+        due.is("ab ann: 15 1 25; abc ab: 25 1 15", x.may(0), 31);
+        x.width(1, 10);
+        due.is("abc ab: 51", x.may(0), 0);
+        x.joined(1, 2, -1);
+        due.is("abc ab: 49; ab rosa: 60", x.may(0), 31);
     }
 
     private static void fillings() {
@@ -1022,6 +1063,11 @@ public final class PromisesTest {
         x.note(21, 5);
         due.is("next to each other", x.missing(20, 0), NONE);
         due.is("the last", x.missing(19, 1), 4);
+        InkBars y = new InkBars();
+        Due.sheet(y, 500, "ab");
+        y.note(3, 0);
+        due.is("0, when each sheet has a note", y.missing(0, 0), NONE);
+        due.is("1, when each sheet has a note", y.missing(1, 1), 0);
     }
 
     private static void check() {
@@ -1048,6 +1094,9 @@ public final class PromisesTest {
             due.is("check " + t, x.check(0, told[t].length / 2), want[t]);
             due.is("tape is empty behind check " + t, x.count(9), 0);
         }
+        Due.numbers(x, 0, 2, 1, 3, 2, 5, 0, 0, 0, 0, 0, 0, 0, 0, 0);
+        due.is("eight twos of sixty bytes", x.check(0, 8), -2);
+        due.is("seven twos of sixty bytes", x.check(0, 7), 6);
         Due.feed(x, "bytes that stay not");
         due.is("none told of three", x.check(0, 0), 0);
         due.is("tape is empty behind none", x.count(9), 0);

@@ -357,7 +357,7 @@ public final class RandomRunsTest {
         int k = about(0, Math.max(0, model.count(1) - 1));
         int i = about(0, Math.max(0, model.count(0) - 1));
         int s = about(0, 5);
-        int what = pick(22);
+        int what = pick(23);
         switch (what) {
             case 0: is("wide(" + i + ")", bars.wide(i), model.wide(i)); break;
             case 1: {
@@ -433,10 +433,23 @@ public final class RandomRunsTest {
                 break;
             }
             case 20: askCheck(k); break;
+            case 21: askBetweenWidths(); break;
             default: {
                 int w = oneIn(3) ? about(0, 36) : pick(11);
                 is("count(" + w + ")", bars.count(w), model.count(w));
             }
+        }
+    }
+
+    /** Asks while a letter is of another width, and when it is as it was. */
+    private void askBetweenWidths() {
+        int letter = pick(3) * pick(10);
+        int before = model.letter(letter);
+        for (int n : new int[] {1 + pick(20), before}) {
+            is("width(" + letter + ", " + n + ")", bars.width(letter, n), model.width(letter, n));
+            is("fillings(0)", bars.fillings(0), model.fillings(0));
+            is("odds(0, NONE)", bars.odds(0, -1), model.odds(0, -1));
+            is("fillings(2)", bars.fillings(2), model.fillings(2));
         }
     }
 
