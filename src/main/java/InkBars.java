@@ -413,11 +413,11 @@ public final class InkBars {
     }
 
     private static boolean isLetter(int sign) {
-        return within(sign, 'a', 'z');
+        return sign >= 'a' && sign <= 'z';
     }
 
     private static boolean isDigit(int sign) {
-        return within(sign, '0', '9');
+        return sign >= '0' && sign <= '9';
     }
 
     private static boolean bit(int bits, int place) {
@@ -634,28 +634,24 @@ public final class InkBars {
             }
         }
 
-        private static boolean known(int letter) {
-            return letter >= 0 && letter < SIDE;
-        }
-
         void setWide(int letter, int n) {
-            if (known(letter)) {
+            if (letter >= 0 && letter < SIDE) {
                 wides[letter] = n;
             }
         }
 
         void setJoined(int a, int b, int n) {
-            if (known(a) && known(b)) {
+            if (a >= 0 && a < SIDE && b >= 0 && b < SIDE) {
                 joins[a * SIDE + b] = n;
             }
         }
 
         int wideOf(int letter) {
-            return known(letter) ? wides[letter] : 0;
+            return letter >= 0 && letter < SIDE ? wides[letter] : 0;
         }
 
         int joinOf(int a, int b) {
-            return known(a) && known(b) ? joins[a * SIDE + b] : 0;
+            return a >= 0 && a < SIDE && b >= 0 && b < SIDE ? joins[a * SIDE + b] : 0;
         }
     }
 
@@ -692,18 +688,20 @@ public final class InkBars {
         }
 
         int length(int w) {
-            return stands(w) ? lengths[w] : 0;
+            return w >= 0 && w < room ? lengths[w] : 0;
         }
 
         /** The letter at a place; 0 behind the end, so that what ends first is ahead. */
         int letter(int w, int place) {
-            return place >= 0 && place < length(w) && place < WORD_ROOM ? signs[w * WORD_ROOM + place] : 0;
+            boolean there = w >= 0 && w < room && place >= 0 && place < WORD_ROOM;
+            return there && place < lengths[w] ? signs[w * WORD_ROOM + place] : 0;
         }
 
         int wide(int w, Letters by) {
             int wide = 0;
             int before = 0;
-            for (int place = 0; place < length(w); place++) {
+            int many = length(w);
+            for (int place = 0; place < many; place++) {
                 int letter = letter(w, place);
                 wide += by.wideOf(letter) + by.joinOf(before, letter);
                 before = letter;
@@ -1399,25 +1397,22 @@ public final class InkBars {
         private int factor(int depth, boolean asked) {
             if (next == '[') {
                 go(depth < DEEPEST ? 0 : 5);
-                int value = depth < DEEPEST ? sum(depth + 1, asked) : 0;
+                int inner = depth < DEEPEST ? sum(depth + 1, asked) : 0;
                 go(next == ']' ? 0 : 1);
-                return value;
+                return inner;
             }
-            if (isDigit(next)) {
-                return number();
+            int value = 0;
+            int digits = 0;
+            for (; digits <= DIGITS && isDigit(next); digits++) {
+                value = 10 * value + next - '0';
+                go(digits < DIGITS ? 0 : 2);
+            }
+            if (digits > 0) {
+                return value;
             }
             int place = next - 'a';
             go(isFact(next) ? 0 : 1);
             return place >= 0 && place < ALPHABET ? facts[place] : 0;
-        }
-
-        private int number() {
-            int value = 0;
-            for (int digits = 0; digits <= DIGITS && isDigit(next); digits++) {
-                value = 10 * value + next - '0';
-                go(digits < DIGITS ? 0 : 2);
-            }
-            return value;
         }
 
         private static boolean isFact(int sign) {
