@@ -1453,29 +1453,25 @@ public final class InkBars {
         }
 
         int least(int house, Names names, Letters by) {
-            int least = USUAL_LEAST;
-            boolean any = false;
-            for (int l = 0; l < count && l < ROOM; l++) {
-                if (houses[l] == house) {
-                    int more = inks[l] - names.wide(lifted[l], by);
-                    least = any ? Math.min(least, more) : more;
-                    any = true;
-                }
-            }
-            return least;
+            return bound(house, false, names, by);
         }
 
         int greatest(int house, Names names, Letters by) {
-            int greatest = USUAL_GREATEST;
+            return bound(house, true, names, by);
+        }
+
+        private int bound(int house, boolean upper, Names names, Letters by) {
+            int bound = upper ? USUAL_GREATEST : USUAL_LEAST;
             boolean any = false;
             for (int l = 0; l < count && l < ROOM; l++) {
                 if (houses[l] == house) {
                     int more = inks[l] - names.wide(lifted[l], by);
-                    greatest = any ? Math.max(greatest, more) : more;
+                    boolean further = upper ? more > bound : more < bound;
+                    bound = !any || further ? more : bound;
                     any = true;
                 }
             }
-            return greatest;
+            return bound;
         }
     }
 
