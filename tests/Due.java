@@ -1,18 +1,58 @@
+import java.io.IOException;
+import java.nio.file.Files;
+import java.nio.file.Path;
+
 /** Counts the answers that are not as due, and feeds texts to an object. */
 final class Due {
+    private static final Path DOCUMENT = Path.of("../shared/DOC.md");
+
     private final String test;
+    private String document;
+    private String sentence = "";
+    private int sentences;
     private int asked;
+    private int askedBefore;
     private int wrong;
 
     Due(String test) {
         this.test = test;
     }
 
+    /** Names the sentence of the document that the next answers are held to; it must stand there. */
+    void sentence(String quote) {
+        endSentence();
+        sentences++;
+        askedBefore = asked;
+        sentence = ": \"" + quote + "\"";
+        if (!document().contains(quote)) {
+            wrong++;
+            System.out.println(test + sentence + " does not stand in the document");
+        }
+    }
+
+    private void endSentence() {
+        if (sentences > 0 && asked == askedBefore) {
+            wrong++;
+            System.out.println(test + sentence + " is not tested");
+        }
+    }
+
+    private String document() {
+        if (document == null) {
+            try {
+                document = Files.readString(DOCUMENT);
+            } catch (IOException e) {
+                throw new IllegalStateException("no " + DOCUMENT, e);
+            }
+        }
+        return document;
+    }
+
     void is(String call, long got, long want) {
         asked++;
         if (got != want) {
             wrong++;
-            System.out.println(test + ": " + call + " answered " + got + ", due is " + want);
+            System.out.println(test + sentence + ": " + call + " answered " + got + ", due is " + want);
         }
     }
 
@@ -25,7 +65,9 @@ final class Due {
     }
 
     void end() {
-        System.out.println(test + ": " + asked + " answers, " + wrong + " wrong");
+        endSentence();
+        String of = sentences > 0 ? " of " + sentences + " sentences" : "";
+        System.out.println(test + ": " + asked + " answers" + of + ", " + wrong + " wrong");
         if (wrong != 0 || asked == 0) {
             System.exit(1);
         }
@@ -38,7 +80,7 @@ final class Due {
         for (int i = 0; i < ints.length; i++) {
             for (int b = 0; b < 4; b++) {
                 int at = 4 * i + b;
-                ints[i] = ints[i] << 8 | (at < text.length() ? text.charAt(at) : ' ');
+                ints[i] = ints[i] << 8 | (at < text.length() ? text.charAt(at) & 255 : ' ');
             }
         }
         return ints;
@@ -54,6 +96,15 @@ final class Due {
     static int name(InkBars x, String word, int sort, int from, int to, int weight) {
         feed(x, word);
         return x.name(word.length(), sort, from, to, weight);
+    }
+
+    /** An object with these names, of sort 0, years 0 to 199 and weight 1. */
+    static InkBars withNames(String... words) {
+        InkBars x = new InkBars();
+        for (String word : words) {
+            name(x, word, 0, 0, 199, 1);
+        }
+        return x;
     }
 
     static int sheet(InkBars x, int wide, String text) {

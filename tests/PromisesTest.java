@@ -48,14 +48,6 @@ public final class PromisesTest {
         due.end();
     }
 
-    private static InkBars withNames(String... words) {
-        InkBars x = new InkBars();
-        for (String word : words) {
-            Due.name(x, word, 0, 0, 199, 1);
-        }
-        return x;
-    }
-
     /** ann 30, bob 30, eve 30, ivan 40, rosa 40, with weights 2, 3, 5, 7, 1. */
     private static InkBars five() {
         InkBars x = new InkBars();
@@ -86,7 +78,7 @@ public final class PromisesTest {
     }
 
     private static void width() {
-        InkBars x = withNames("az");
+        InkBars x = Due.withNames("az");
         due.is("az at first", x.wide(0), 20);
         due.is("width(1, 1)", x.width(1, 1), true);
         due.is("width(26, 60)", x.width(26, 60), true);
@@ -108,7 +100,7 @@ public final class PromisesTest {
     }
 
     private static void joined() {
-        InkBars x = withNames("aab", "ba", "a");
+        InkBars x = Due.withNames("aab", "ba", "a");
         due.is("joined(1, 2, -20)", x.joined(1, 2, -20), true);
         due.is("aab: b behind a", x.wide(0), 10);
         due.is("ba: none", x.wide(1), 20);
@@ -125,7 +117,7 @@ public final class PromisesTest {
         }
         due.is("aab still", x.wide(0), 50);
         // Widths may fall below 0, and still be set.
-        InkBars y = withNames("aaaaaaaaaaaa");
+        InkBars y = Due.withNames("aaaaaaaaaaaa");
         y.width(1, 1);
         y.joined(1, 1, -20);
         due.is("twelve a", y.wide(0), 12 - 220);
@@ -191,7 +183,7 @@ public final class PromisesTest {
     }
 
     private static void wide() {
-        InkBars x = withNames("a", "abc");
+        InkBars x = Due.withNames("a", "abc");
         due.is("wide(0)", x.wide(0), 10);
         due.is("wide(1)", x.wide(1), 30);
         due.is("wide(2)", x.wide(2), NONE);
@@ -268,7 +260,7 @@ public final class PromisesTest {
     }
 
     private static void rules() {
-        InkBars x = withNames("ab", "abc");
+        InkBars x = Due.withNames("ab", "abc");
         x.bar(30, -1, 255);
         Due.feed(x, "0(n=3);3(i=9);1(n=1) ");
         due.is("rules(0)", x.rules(0), NONE);
@@ -357,7 +349,7 @@ public final class PromisesTest {
         for (Object[] c : cases) {
             due.is("0(" + c[0] + ")", holds((String) c[0]), (Integer) c[1]);
         }
-        InkBars x = withNames("ab", "abc", "abcd");
+        InkBars x = Due.withNames("ab", "abc", "abcd");
         x.bar(35, -1, 255);
         x.bar(37, -1, 255);
         Due.rules(x, "0(n>2);1(b=37&n<4);0(n<4);2(1=0)");
@@ -408,7 +400,7 @@ public final class PromisesTest {
         y.tie(2, 0, 1);
         due.is("none is ahead of itself", y.fillings(0), 0);
         // What ends first is ahead.
-        InkBars z = withNames("anna", "ann");
+        InkBars z = Due.withNames("anna", "ann");
         z.bar(35, -1, 255);
         z.bar(45, -1, 255);
         z.tie(2, 0, 1);
@@ -441,7 +433,7 @@ public final class PromisesTest {
         due.is("a 21st", x.listed(0, NONE, NONE), false);
         due.is("twenty", x.count(5), 20);
         due.is("still", x.may(0), 2);
-        InkBars y = withNames("anna", "ann", "annab");
+        InkBars y = Due.withNames("anna", "ann", "annab");
         y.bar(35, -1, 255);
         y.listed(0, 1, 2);
         due.is("between ann and annab: anna, but too wide", y.against(0, 0), 1);
@@ -555,7 +547,7 @@ public final class PromisesTest {
         x.tie(0, 0, 1);
         x.tie(1, 0, 1);
         due.is("no ties alone", x.against(1, 3), 0);
-        InkBars y = withNames("abe", "ebe", "ibe", "obe", "ube", "ybe", "be");
+        InkBars y = Due.withNames("abe", "ebe", "ibe", "obe", "ube", "ybe", "be");
         y.bar(30, -1, 255);
         Due.sheet(y, 5000, "a 0");
         int[] want = {4, 4, 4, 4, 4, 0, 0};
@@ -869,7 +861,7 @@ public final class PromisesTest {
         Due.rules(x, "0(n=5)");
         due.is("nobody", x.said(0, 1, 0), 0);
         due.is("nobody: who", x.said(0, 1, 1), NONE);
-        InkBars y = withNames("ox", "ax", "by");
+        InkBars y = Due.withNames("ox", "ax", "by");
         y.bar(20, -1, 255);
         due.is("a third each: the lowest number", y.said(0, 333, 1), 0);
         due.is("a third each: 333", y.said(0, 333, 0), 2);
