@@ -414,6 +414,18 @@ public final class EdgesCopiesTest {
         for (int h = 0; h < 4; h++) {
             due.is("one twice: " + h, x.stricter(h, h), NONE);
         }
+        InkBars y = sheets();
+        y.copy(0, 0, 1, 1);
+        due.is("house 0 has none", y.stricter(0, 1), NONE);
+        due.is("house 0 has none, the other way", y.stricter(1, 0), NONE);
+        y.copy(0, 0, 2, 1);
+        due.is("houses 1 and 2 have one", y.stricter(1, 2), 0);
+        int[] without = {0, 3};
+        for (int h : without) {
+            due.is("house " + h + " has none still", y.stricter(h, 2), NONE);
+            due.is("house " + h + " has none still, the other way", y.stricter(1, h), NONE);
+        }
+        due.is("neither has", y.stricter(0, 3), NONE);
         int[] none = {-1, 4, 5, MIN, MAX};
         for (int h : none) {
             due.is("stricter(" + h + ", 0)", x.stricter(h, 0), NONE);
@@ -491,6 +503,7 @@ public final class EdgesCopiesTest {
         due.is("34 is missing: last", x.missing(34, 1), 0);
         due.is("35 is not", x.missing(35, 0), NONE);
         due.is("40 is not", x.missing(40, 0), NONE);
+        due.is("0 is no number", x.missing(0, 0), NONE);
         InkBars y = new InkBars();
         Due.sheet(y, 500, "a");
         due.is("note(5, 1) of no sheet", y.note(5, 1), false);

@@ -10,6 +10,9 @@ public final class EdgesFillingsTest {
         inkAtFirst();
         inkAsLifted();
         linesOfOneSheet();
+        linesOfManyBars();
+        linesOfNow();
+        linesOfWords();
         grammarLetters();
         grammarWords();
         grammarAhead();
@@ -139,6 +142,173 @@ public final class EdgesFillingsTest {
         InkBars z = withBars(1, 40, "abc", "abcd");
         Due.sheet(z, 500, "0");
         due.is("one token breaks nowhere", z.judge(1), 0);
+        for (int k = 0; k < 4; k++) {
+            InkBars v = withBars(4, 40, "abc", "abcd");
+            Due.sheet(v, 80, "b 0 b/b 1 b/b 2 b/b 3 b".replace("" + k, "b bb"));
+            Due.sheet(v, 50, "b " + k);
+            for (int q = 0; q < 4; q++) {
+                due.is("may of bar " + q + ", " + k + " behind b in 50", v.may(q), q == k ? 1 : 3);
+            }
+            Due.sheet(v, 59, k + "/b");
+            due.is("but " + k + " b is wider than 59", v.may(k), 0);
+            due.is("so it is with abcd under all", v.judge(1 + 24 + 576 + 13824), 2);
+            due.is("without lines", v.fillings(2), 16);
+        }
+    }
+
+    /** Names of widths 10 to 60 and three bars that all of them may be under, but for what a sheet says. */
+    private static InkBars narrowAndWide(int wide, String text) {
+        InkBars x = new InkBars();
+        for (int i = 0; i < 6; i++) {
+            Due.name(x, ("" + LOWER.charAt(25 - i)).repeat(i < 3 ? 2 * i + 1 : 12 - 2 * i), 0, 0, 0, 1);
+        }
+        for (int k = 0; k < 3; k++) {
+            x.bar(60 + 5 * k, NONE, 255);
+        }
+        x.lifted(0, 0, 1);
+        x.lifted(0, 0, 3000);
+        x.width(0, 7);
+        due.is("a sheet of " + text, Due.sheet(x, wide, text), 0);
+        return x;
+    }
+
+    private static int rowOf(int r) {
+        return r % 6 + 24 * (r / 6 % 6) + 576 * (r / 36);
+    }
+
+    private static void linesOfManyBars() {
+        due.sentence("SET by NAMES for all BARS: a TOKEN stands behind the one before in its line, THE BLANK between,");
+        String[] texts = {"0 1 2", "0 1/2", "0/1 2", "2 b 1 0", "1 1/0 2 0", "b/0 b 2/1 bb 0", "0 0 0/1 1/2", "2/2 2 1/1 0"};
+        for (String text : texts) {
+            for (int wide = 50; wide <= 230; wide += 6) {
+                InkBars x = narrowAndWide(wide, text);
+                String of = " of " + text + " in " + wide;
+                int stand = 0;
+                int[] may = new int[3];
+                for (int r = 0; r < 216; r++) {
+                    if (x.judge(rowOf(r)) == 0) {
+                        stand++;
+                        may[0] |= 1 << r % 6;
+                        may[1] |= 1 << r / 6 % 6;
+                        may[2] |= 1 << r / 36;
+                    }
+                }
+                due.is("fillings" + of, x.fillings(0), stand);
+                due.is("without lines" + of, x.fillings(2), 216);
+                due.is("odds" + of, x.odds(0, NONE), stand);
+                for (int k = 0; k < 3; k++) {
+                    due.is("may(" + k + ")" + of, x.may(k), may[k]);
+                }
+            }
+        }
+        for (int wide = 80; wide <= 120; wide += 10) {
+            for (int tie = -1; tie <= 2; tie++) {
+                keptByRows(tie, wide, "2 b 1 0");
+                keptByRows(tie, wide, "1/0 2 0");
+                keptByRows(tie, wide, "0 1/2 1");
+            }
+        }
+    }
+
+    /** Holds KEPT against what is judged of all rows; the habit of now is the widest, so that INK is asked here. */
+    private static void keptByRows(int tie, int wide, String text) {
+        InkBars x = narrowAndWide(wide, text);
+        due.is("tie " + tie, x.tie(tie, 0, 2), tie >= 0);
+        int[] want = new int[25];
+        java.util.Arrays.fill(want, NONE);
+        boolean[] stands = new boolean[216];
+        for (int r = 0; r < 216; r++) {
+            stands[r] = x.judge(rowOf(r)) == 0;
+        }
+        for (int h = 200; h >= 0; h--) {
+            int[] may = new int[3];
+            for (int r = 0; r < 216; r++) {
+                int[] i = {r % 6, r / 6 % 6, r / 36};
+                boolean fits = stands[r];
+                for (int k = 0; k < 3; k++) {
+                    int more = 60 + 5 * k - x.wide(i[k]);
+                    fits = fits && more >= 0 && more <= h;
+                }
+                for (int k = 0; k < 3 && fits; k++) {
+                    may[k] |= 1 << i[k];
+                }
+            }
+            for (int m = 1; m <= 24; m++) {
+                boolean all = true;
+                for (int bits : may) {
+                    all = all && Integer.bitCount(bits) >= m;
+                }
+                want[m] = all ? h : want[m];
+            }
+        }
+        for (int m = 1; m <= 7; m++) {
+            due.is("kept(" + m + ") of " + text + " in " + wide + ", tie " + tie, x.kept(m), want[m]);
+        }
+    }
+
+    private static void linesOfNow() {
+        due.sentence("by these NAMES some SHEET, SET, breaks otherwise than it does.");
+        InkBars x = withBars(1, 30, "ab", "abc");
+        Due.sheet(x, 60, "bb 0");
+        due.is("both stand", x.may(0), 3);
+        x.joined(1, 2, 1);
+        due.is("abc is 31 wide now: more than its ink", x.may(0), 1);
+        x.joined(1, 2, -1);
+        due.is("29", x.may(0), 3);
+        x.width(0, 12);
+        due.is("20 12 29 is wider than 60", x.may(0), 1);
+        x.width(0, 11);
+        due.is("20 11 29 is not", x.may(0), 3);
+        x.width(0, 12);
+        due.is("20 12 29 again", x.may(0), 1);
+        Due.name(x, "xx", 0, 0, 0, 1);
+        due.is("a name told since", x.may(0), 5);
+        x.bar(30, NONE, 255);
+        due.is("a bar told since: all that fits", x.may(1), 7);
+        Due.sheet(x, 90, "b 1/b 0 0");
+        due.is("a sheet told since: 10 12 30 12 10 is not wider than 90", x.may(1), 0);
+        due.is("without lines", x.fillings(2), 9);
+        x.lifted(0, 0, 3000);
+        due.is("a habit of now", x.fillings(2), 0);
+        x.house(1);
+        due.is("a house of now", x.fillings(2), 9);
+        InkBars y = withBars(1, 30, "ab", "abc");
+        due.is("both", y.may(0), 3);
+        y.lifted(0, 1, 30);
+        due.is("a habit told since", y.may(0), 2);
+        y.lifted(0, 0, 30);
+        due.is("and a second time", y.may(0), 3);
+        y.house(2);
+        y.lifted(2, 0, 30);
+        due.is("a house told since", y.may(0), 1);
+    }
+
+    private static void linesOfWords() {
+        due.sentence("2 LINES: by these NAMES some SHEET, SET, breaks otherwise than it does.");
+        int[] wides = {59, 60, 61};
+        for (int wide : wides) {
+            for (int broken = 0; broken <= 1; broken++) {
+                InkBars x = withBars(1, 30, "ab", "abc");
+                Due.sheet(x, wide, broken == 1 ? "bbb/dd" : "bbb dd");
+                boolean so = wide >= 60 == (broken == 0);
+                String of = " in " + wide + ", broken " + broken;
+                due.is("30 10 20" + of, x.judge(0), so ? 0 : 2);
+                due.is("fillings" + of, x.fillings(0), so ? 2 : 0);
+                due.is("may" + of, x.may(0), so ? 3 : 0);
+                due.is("odds" + of, x.odds(0, NONE), so ? 2 : 0);
+                due.is("kept" + of, x.kept(1), so ? 0 : NONE);
+                due.is("given away" + of, x.given(), so ? 1 : 2);
+                x.width(4, broken == 0 ? 9 : 11);
+                due.is("of other widths" + of, x.fillings(0), broken == 0 || wide < 62 ? 2 : 0);
+                x.width(4, broken == 0 ? 20 : 1);
+                due.is("of others again" + of, x.may(0), 0);
+            }
+        }
+        InkBars y = withBars(1, 20, "ab", "cd");
+        Due.sheet(y, 50, "bbbbb/bbbbb/bbbbb/0/bbbbb");
+        Due.sheet(y, 90, "b 0");
+        due.is("a shorter sheet behind a longer one", y.judge(0), 0);
+        due.is("it fits", y.fillings(0), 2);
     }
 
     private static void grammarLetters() {
@@ -199,6 +369,16 @@ public final class EdgesFillingsTest {
         due.is("in the last sheet, over a break: ox", x.against(1, 0), 4);
         due.is("in the last sheet, over a break: by", x.against(1, 1), 0);
         due.is("of the others as before", x.against(2, 0), 0);
+        String[] articles = {"a", "an"};
+        for (String article : articles) {
+            InkBars y = withBars(1, 20, "ox", "by");
+            Due.sheet(y, 500, "b ".repeat(23) + article);
+            Due.sheet(y, 500, "0 b");
+            due.is(article + " is the 24th token of the sheet before: ox", y.against(0, 0), 0);
+            due.is(article + " is the 24th token of the sheet before: by", y.against(0, 1), 0);
+            Due.sheet(y, 500, "b ".repeat(22) + article + " 0");
+            due.is(article + " is the 23rd, the bar the 24th", y.against(0, 0) | y.against(0, 1), 4);
+        }
     }
 
     private static void ties() {

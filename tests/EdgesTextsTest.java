@@ -347,6 +347,10 @@ public final class EdgesTextsTest {
         y.width(0, 60);
         due.is("each in a line: line 23", y.line(0, 0, 23), 23);
         due.is("each in a line: line 24", y.line(0, 0, 24), NONE);
+        Due.sheet(y, 500, "a b");
+        due.is("a shorter sheet behind it: line 0", y.line(1, 0, 0), 0);
+        due.is("a shorter sheet behind it: line 1", y.line(1, 0, 1), NONE);
+        due.is("a shorter sheet behind it: line 2", y.line(1, 0, 2), NONE);
     }
 
     private static void lineRows() {
@@ -614,6 +618,8 @@ public final class EdgesTextsTest {
         due.is("! ( and [ of the right side", Due.rules(x, "0(!(!(n=[[1]])))"), -5009);
         due.is("! ( and [ of the right side: six", Due.rules(x, "0(!(!(n=[1])))"), 1);
         due.is("what can't stand there is 1", Due.rules(x, "0((((((n=(1))))))"), -1009);
+        hold("(((((1=1)))))", "!!!!!1=2", "[[[[[1]]]]]=1", "1=[[[[[1]]]]]", "!(!([2-1]=1))", "1=1&(((((1=1)))))");
+        holdNot("(((((1=2)))))", "!!!!!1=1", "[[[[[1]]]]]=2", "1=[[[[[2]]]]]", "!(!([2-1]=2))", "1=1&(((((1=2)))))");
     }
 
     private static void rulesDepthEnds() {
