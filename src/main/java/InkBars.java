@@ -1763,6 +1763,11 @@ public final class InkBars {
             }
         }
 
+        /** The names that may be under bar y if name i is under bar x. */
+        private int mates(int x, int i, int y) {
+            return isBar(x) && isBar(y) && isName(i) ? pairs[pairPlace(x, i, y)] : 0;
+        }
+
         void setFits(int k, int bits) {
             if (isBar(k)) {
                 fits[k] = bits;
@@ -1837,21 +1842,28 @@ public final class InkBars {
 
         /** The names that may stand under bar k behind those under the bars before. */
         private int candidates(int k) {
-            int bits = fits[k];
+            int bits = isBar(k) ? fits[k] : 0;
             if (tied) {
-                for (int q = 0; q < k; q++) {
-                    bits &= pairs[pairPlace(q, under[q], k)];
+                for (int q = 0; q < k && q < BAR_ROOM; q++) {
+                    bits &= mates(q, under[q], k);
                 }
             }
             if (lined && lines.heeds(k)) {
                 lines.narrow(k, underWides);
-                for (int i = 0; i < names; i++) {
+                for (int i = 0; i < names && i < NAME_ROOM; i++) {
                     if (wides[i] < lines.least() || wides[i] > lines.greatest()) {
                         bits &= ~(1 << i);
                     }
                 }
             }
             return bits;
+        }
+
+        private void put(int k, int i) {
+            if (isBar(k) && isName(i)) {
+                under[k] = i;
+                underWides[k] = wides[i];
+            }
         }
 
         private int countFrom(int k) {
@@ -1863,7 +1875,7 @@ public final class InkBars {
                 return Integer.bitCount(bits);
             }
             int many = 0;
-            for (int i = 0; i < names; i++) {
+            for (int i = 0; i < names && i < NAME_ROOM; i++) {
                 if (bit(bits, i)) {
                     many += countBehind(k, i);
                 }
@@ -1872,8 +1884,7 @@ public final class InkBars {
         }
 
         private int countBehind(int k, int i) {
-            under[k] = i;
-            underWides[k] = wides[i];
+            put(k, i);
             return countFrom(k + 1);
         }
 
@@ -1884,7 +1895,7 @@ public final class InkBars {
             }
             int bits = candidates(k);
             if (k < bars - 1) {
-                for (int i = 0; i < names; i++) {
+                for (int i = 0; i < names && i < NAME_ROOM; i++) {
                     if (bit(bits, i) && !reachBehind(k, i)) {
                         bits &= ~(1 << i);
                     }
@@ -1895,8 +1906,7 @@ public final class InkBars {
         }
 
         private boolean reachBehind(int k, int i) {
-            under[k] = i;
-            underWides[k] = wides[i];
+            put(k, i);
             return reachFrom(k + 1);
         }
 
@@ -1907,7 +1917,7 @@ public final class InkBars {
             }
             int bits = candidates(k);
             long sum = 0;
-            for (int i = 0; i < names; i++) {
+            for (int i = 0; i < names && i < NAME_ROOM; i++) {
                 if (bit(bits, i)) {
                     long more = worth * weights[i];
                     more = k < bars - 1 ? weighBehind(k, i, more) : more;
@@ -1919,8 +1929,7 @@ public final class InkBars {
         }
 
         private long weighBehind(int k, int i, long worth) {
-            under[k] = i;
-            underWides[k] = wides[i];
+            put(k, i);
             return weighFrom(k + 1, worth);
         }
     }
